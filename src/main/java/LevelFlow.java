@@ -230,8 +230,10 @@ public final class LevelFlow {
             if (size >= cells.length) {
                 cells = Arrays.copyOf(cells, Math.min(most, cells.length * 2));
             }
-            cells[size] = v;
-            size++;
+            if (size < cells.length) {
+                cells[size] = v;
+                size++;
+            }
         }
 
         int pop() {
