@@ -1,30 +1,49 @@
-import java.util.ArrayList;
 import java.util.List;
 
-/** Counts answers that are not as due, and calls a LevelFlow in the ways that tests need often. */
+/** Counts answers that are as due, and those that are not, which it prints with the promise and its case. */
 final class Check {
     private static final int MOST_PRINTED = 40;
 
+    private String current = "";
     private int right;
     private int wrong;
+    private int edges;
+
+    /** What is checked from here on belongs to this case of a promise. */
+    void edge(int promise, String sentence) {
+        current = "promise " + promise + ", " + sentence + ": ";
+        edges++;
+    }
 
     void same(String what, long got, long due) {
-        if (got == due) {
+        answer(what, got == due, String.valueOf(got), String.valueOf(due));
+    }
+
+    void same(String what, String got, String due) {
+        answer(what, got.equals(due), got, due);
+    }
+
+    void list(String what, List<Integer> got, List<Integer> due) {
+        answer(what, got.equals(due), got.toString(), due.toString());
+    }
+
+    void holds(String what, boolean got) {
+        answer(what, got, String.valueOf(got), "true");
+    }
+
+    void fails(String what, boolean got) {
+        answer(what, !got, String.valueOf(got), "false");
+    }
+
+    private void answer(String what, boolean isDue, String got, String due) {
+        if (isDue) {
             right++;
             return;
         }
         wrong++;
         if (wrong <= MOST_PRINTED) {
-            System.out.println(what + ": answered " + got + ", due is " + due);
+            System.out.println(current + what + ": answered " + got + ", due is " + due);
         }
-    }
-
-    void holds(String what, boolean got) {
-        same(what, got ? 1 : 0, 1);
-    }
-
-    void fails(String what, boolean got) {
-        same(what, got ? 1 : 0, 0);
     }
 
     int wrong() {
@@ -32,75 +51,26 @@ final class Check {
     }
 
     void end(String name) {
-        System.out.println(name + ": " + right + " answers as due, " + wrong + " not");
-        if (wrong != 0) {
+        String cases = edges > 0 ? edges + " cases of promises, " : "";
+        System.out.println(name + ": " + cases + right + " answers as due, " + wrong + " not");
+        if (wrong != 0 || right == 0) {
             System.exit(1);
         }
     }
 
-    /** Bytes are the characters 0 to 255 of the text. */
-    static boolean give(LevelFlow flow, String text) {
-        for (int from = 0; from < text.length(); from += 8) {
-            int n = Math.min(8, text.length() - from);
-            long v = 0;
-            for (int k = 0; k < n; k++) {
-                v = v << 8 | text.charAt(from + k);
-            }
-            if (!flow.giveText(v, n)) {
-                return false;
-            }
-        }
-        return true;
+    void output(String what, Flow flow, Integer... due) {
+        list(what + ", output", flow.output(), List.of(due));
     }
 
-    static int take(LevelFlow flow, String text) {
-        give(flow, text);
-        return flow.takeProgram();
+    void input(String what, Flow flow, Integer... due) {
+        list(what + ", input", flow.input(false), List.of(due));
     }
 
-    /** Makes the draft these ints and applies it. */
-    static int feed(LevelFlow flow, int... ints) {
-        flow.dropBatch();
-        if (flow.lookAt(5) > 0) {
-            flow.deleteFrom(0, flow.lookAt(5));
-        }
-        for (int i = 0; i < ints.length; i++) {
-            if (flow.lookAt(6) == 32) {
-                flow.applyBatch();
-            }
-            flow.insertAhead(i, ints[i]);
-        }
-        return flow.applyBatch();
+    void draft(String what, Flow flow, Integer... due) {
+        list(what + ", draft", flow.input(true), List.of(due));
     }
 
-    static List<Integer> output(LevelFlow flow) {
-        List<Integer> ints = new ArrayList<>();
-        for (int i = 0; i < flow.lookAt(7); i++) {
-            ints.add(flow.outputAt(i));
-        }
-        return ints;
-    }
-
-    static List<Integer> input(LevelFlow flow, boolean draft) {
-        List<Integer> ints = new ArrayList<>();
-        for (int i = 0; i < flow.lookAt(draft ? 5 : 4); i++) {
-            ints.add(flow.inputAt(i, draft));
-        }
-        return ints;
-    }
-
-    void output(String what, LevelFlow flow, Integer... due) {
-        list(what + ", output", output(flow), List.of(due));
-    }
-
-    void list(String what, List<Integer> got, List<Integer> due) {
-        if (!got.equals(due)) {
-            System.out.println(what + ": answered " + got + ", due is " + due);
-        }
-        holds(what, got.equals(due));
-    }
-
-    void noOutputAt(LevelFlow flow, int i) {
+    void noOutputAt(Flow flow, int i) {
         boolean thrown = false;
         try {
             flow.outputAt(i);
@@ -110,7 +80,7 @@ final class Check {
         holds("outputAt(" + i + ") throws", thrown);
     }
 
-    void noInputAt(LevelFlow flow, int i, boolean draft) {
+    void noInputAt(Flow flow, int i, boolean draft) {
         boolean thrown = false;
         try {
             flow.inputAt(i, draft);

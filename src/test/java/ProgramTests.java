@@ -1,10 +1,5 @@
 /** Promise 3: which texts are taken, the first fault of the others with its place, values and steps. */
-public final class ProgramTests {
-    private static final Check CHECK = new Check();
-    private static final String MAIN = "(fun main((l lmod))lmod l)";
-    /** Expressions around the one that oneInt() is given: lmod, write, cons, lmod, write, nil. */
-    private static final int STEPS_AROUND = 6;
-
+public final class ProgramTests extends Texts {
     private ProgramTests() {
     }
 
@@ -32,51 +27,8 @@ public final class ProgramTests {
         CHECK.end("ProgramTests");
     }
 
-    /** The place of the fault is marked with a @, which is no part of the text. */
-    private static void fault(int kind, String marked) {
-        int place = marked.indexOf('@');
-        String text = marked.replace("@", "");
-        LevelFlow flow = new LevelFlow();
-        CHECK.same("takeProgram of " + text, Check.take(flow, text), kind);
-        CHECK.same("fault of " + text, flow.lookAt(1), kind);
-        CHECK.same("place in " + text, flow.lookAt(2), place);
-        CHECK.same("definitions of " + text, flow.lookAt(3), 0);
-        CHECK.same("tape behind " + text, flow.lookAt(0), 0);
-        CHECK.same("output of " + text, flow.lookAt(7), LevelFlow.NONE);
-    }
-
-    private static LevelFlow taken(String text, int... input) {
-        LevelFlow flow = new LevelFlow();
-        Check.feed(flow, input);
-        CHECK.same("takeProgram of " + text, Check.take(flow, text), 0);
-        CHECK.same("fault of " + text, flow.lookAt(1), 0);
-        CHECK.same("place of " + text, flow.lookAt(2), LevelFlow.NONE);
-        return flow;
-    }
-
-    private static String inMain(String stable) {
-        return "(fun main((l lmod))lmod " + stable + ")";
-    }
-
-    private static String inMainChangeable(String changeable) {
-        return inMain("(lmod " + changeable + ")");
-    }
-
-    private static String oneInt(String stable) {
-        return inMainChangeable("(write(cons " + stable + "(lmod(write nil))))");
-    }
-
-    private static void value(String stable, int due, int steps) {
-        valueWith("", stable, due, steps);
-    }
-
-    private static void valueWith(String definitions, String stable, int due, int steps) {
-        LevelFlow flow = taken(definitions + oneInt(stable));
-        CHECK.output(stable, flow, due);
-        CHECK.same("steps of " + stable, flow.lookAt(8), steps + STEPS_AROUND);
-    }
-
     private static void tokens() {
+        CHECK.edge(3, "TOKENS: names, numbers, and what stands between them");
         taken(MAIN);
         taken("  \n(fun\nmain (( l\n\nlmod ) )lmod\nl )\n ");
         taken("(fun main((abcdefghijkl lmod))lmod abcdefghijkl)");
@@ -92,6 +44,7 @@ public final class ProgramTests {
     }
 
     private static void badBytes() {
+        CHECK.edge(3, "fault 1: a byte, a NAME or a NUMBER that is none");
         fault(1, "@#");
         fault(1, "@\t" + MAIN);
         fault(1, "@\r" + MAIN);
@@ -116,6 +69,7 @@ public final class ProgramTests {
     }
 
     private static void badTokensOfDefinitions() {
+        CHECK.edge(3, "fault 2 of what is around an expression");
         fault(2, "@)");
         fault(2, "@fun");
         fault(2, "@7");
@@ -153,6 +107,7 @@ public final class ProgramTests {
     }
 
     private static void badTokensOfExpressions() {
+        CHECK.edge(3, "fault 2 of an expression");
         fault(2, inMain("@)"));
         fault(2, inMain("(@)"));
         fault(2, inMain("(@(add 1 2))"));
@@ -204,6 +159,7 @@ public final class ProgramTests {
     }
 
     private static void wordsAreNoNames() {
+        CHECK.edge(3, "fault 2: words are no NAMES of variables or DEFINITIONS");
         String[] words = {"add", "sub", "mul", "div", "rem", "less", "same", "if", "let", "case", "cons",
             "call", "memo", "imod", "lmod", "read", "write", "jump", "nil", "int", "list", "fun", "chg"};
         for (String word : words) {
@@ -223,31 +179,8 @@ public final class ProgramTests {
         taken("(fun adds((main int))int main)" + inMain("(let ad 1(let addd 2(let nils 3 l)))"));
     }
 
-    private static String parameters(int count, String mark) {
-        StringBuilder text = new StringBuilder();
-        for (int k = 0; k < count; k++) {
-            text.append(k == 8 ? mark : "").append("(p").append((char) ('a' + k)).append(" int)");
-        }
-        return text.toString();
-    }
-
-    private static String definitions(int count) {
-        StringBuilder text = new StringBuilder();
-        for (int k = 0; k < count; k++) {
-            text.append("(fun f").append((char) ('a' + k / 26)).append((char) ('a' + k % 26)).append("()int 1)");
-        }
-        return text.toString();
-    }
-
-    private static String lets(int count, String inside) {
-        StringBuilder text = new StringBuilder();
-        for (int k = 0; k < count; k++) {
-            text.append("(let x ").append(k).append(' ');
-        }
-        return text.append(inside).append(")".repeat(count)).toString();
-    }
-
     private static void limitsOfTexts() {
+        CHECK.edge(3, "fault 2: more than 8 parameters, 64 DEFINITIONS or 24 variables");
         taken("(fun f(" + parameters(8, "") + ")int ph)" + MAIN);
         fault(2, "(fun f(" + parameters(9, "@") + ")int ph)" + MAIN);
         CHECK.same("64 definitions", taken(definitions(63) + MAIN).lookAt(3), 64);
@@ -272,6 +205,7 @@ public final class ProgramTests {
     }
 
     private static void earlyEnds() {
+        CHECK.edge(3, "fault 3: the text ends where a TOKEN has to be");
         String whole = "(chg f((x int))int(read(imod(write x))y(jump f y)))"
             + "(fun main((l lmod))lmod(let z(if(case nil 1(h t h))(memo g z -5)(same 1 2))l))";
         int first = whole.indexOf("(fun");
@@ -281,8 +215,8 @@ public final class ProgramTests {
             }
             String cut = whole.substring(0, end);
             boolean isOneWord = cut.matches(".*[( )][a-z0-9-]+");
-            LevelFlow flow = new LevelFlow();
-            int kind = Check.take(flow, cut + " ");
+            Flow flow = new Flow();
+            int kind = flow.take(cut + " ");
             if (!isOneWord) {
                 CHECK.same("fault of " + cut, kind, 3);
                 CHECK.same("place of the end of " + cut, flow.lookAt(2), end + 1);
@@ -296,6 +230,7 @@ public final class ProgramTests {
     }
 
     private static void noMain() {
+        CHECK.edge(3, "fault 4: the last DEFINITION is not main as said");
         fault(4, "@");
         fault(4, "  \n @");
         fault(4, "(fun @mai((l lmod))lmod l)");
@@ -313,6 +248,7 @@ public final class ProgramTests {
     }
 
     private static void notThere() {
+        CHECK.edge(3, "fault 5: a variable or an F that is not there, or other numbers of operands");
         fault(5, inMain("@x"));
         fault(5, inMain("(let x @x l)"));
         fault(5, inMain("(let y(let x 1 2)(let z @x l))"));
@@ -338,6 +274,7 @@ public final class ProgramTests {
     }
 
     private static void otherTypes() {
+        CHECK.edge(3, "fault 6: an expression of another TYPE than it has to be");
         fault(6, inMain("@1"));
         fault(6, inMain("@nil"));
         fault(6, inMain("@(add 1 2)"));
@@ -387,6 +324,7 @@ public final class ProgramTests {
     }
 
     private static void orderOfFaults() {
+        CHECK.edge(3, "the first fault is told");
         fault(1, "(fun f()int zz)(fun main((l lmod))lmod @1a");
         fault(2, "(fun f()int zz)(fun main((l lmod))@a 1a");
         fault(2, "(fun f()int nil)(fun @f");
@@ -399,6 +337,7 @@ public final class ProgramTests {
     }
 
     private static void orderOfTypes() {
+        CHECK.edge(3, "5 and 6 in the order of the text, parts ahead of the whole");
         fault(5, inMain("(add(cons 1 @zz)nil)"));
         fault(6, inMain("(add @(cons 1 l)zz)"));
         fault(6, inMain("(if @nil zz zz)"));
@@ -420,22 +359,23 @@ public final class ProgramTests {
     }
 
     private static void oldProgramStays() {
-        LevelFlow flow = taken("(fun f()int 1)" + MAIN, 4, 5);
-        CHECK.same("a fault", Check.take(flow, "(fun f()int 1)(fun g()int 1)(fun main((l lmod))lmod x)"), 5);
+        CHECK.edge(3, "with a fault, or 7, the PROGRAM before stays");
+        Flow flow = taken("(fun f()int 1)" + MAIN, 4, 5);
+        CHECK.same("a fault", flow.take("(fun f()int 1)(fun g()int 1)(fun main((l lmod))lmod x)"), 5);
         CHECK.same("its place", flow.lookAt(2), 52);
         CHECK.same("definitions", flow.lookAt(3), 2);
         CHECK.same("steps", flow.lookAt(8), 1);
         CHECK.output("old one", flow, 4, 5);
         CHECK.same("an empty tape", flow.takeProgram(), 4);
         CHECK.same("the latest place", flow.lookAt(2), 0);
-        CHECK.same("too long", Check.take(flow, inMain("(call main l)")), 7);
+        CHECK.same("too long", flow.take(inMain("(call main l)")), 7);
         CHECK.same("fault 7", flow.lookAt(1), 7);
         CHECK.same("no place for 7", flow.lookAt(2), LevelFlow.NONE);
         CHECK.same("definitions", flow.lookAt(3), 2);
-        Check.feed(flow, 9);
+        flow.feed(9);
         CHECK.output("old one goes on", flow, 9);
         CHECK.same("the fault stays", flow.lookAt(1), 7);
-        CHECK.same("a new one", Check.take(flow, oneInt("3")), 0);
+        CHECK.same("a new one", flow.take(oneInt("3")), 0);
         CHECK.same("no fault", flow.lookAt(1), 0);
         CHECK.same("no place", flow.lookAt(2), LevelFlow.NONE);
         CHECK.same("definitions of the new one", flow.lookAt(3), 1);
@@ -443,6 +383,7 @@ public final class ProgramTests {
     }
 
     private static void arithmetic() {
+        CHECK.edge(3, "values of operations, modulo 2^32, by 0, rounded towards 0");
         value("(add 2147483647 1)", -2147483648, 3);
         value("(add -2147483648 -1)", 2147483647, 3);
         value("(sub 3 10)", -7, 3);
@@ -471,6 +412,7 @@ public final class ProgramTests {
     }
 
     private static void choices() {
+        CHECK.edge(3, "values of if and case");
         value("(if 1 2 3)", 2, 3);
         value("(if 0 2(add 3 4))", 7, 5);
         value("(if -1(add 3 4)2)", 7, 5);
@@ -480,6 +422,7 @@ public final class ProgramTests {
     }
 
     private static void variables() {
+        CHECK.edge(3, "values of variables");
         value("(let x 4 x)", 4, 3);
         value("(let x 4(let x(add x 1)(mul x x)))", 25, 9);
         value("(add(let x 4 x)(let y 5 y))", 9, 7);
@@ -490,14 +433,15 @@ public final class ProgramTests {
     }
 
     private static void lists() {
-        LevelFlow flow = taken(inMainChangeable(
+        CHECK.edge(3, "lists and modifiables");
+        Flow flow = taken(inMainChangeable(
             "(read l x(case x(write nil)(h t(read t y(case y(write nil)(k u(write(cons(sub h k)u))))))))"), 9, 5, 3);
         CHECK.output("difference of two", flow, 4, 3);
         CHECK.same("its steps", flow.lookAt(8), 15);
-        Check.feed(flow, 9);
+        flow.feed(9);
         CHECK.same("of one", flow.lookAt(7), 0);
         CHECK.same("its steps", flow.lookAt(8), 11);
-        Check.feed(flow);
+        flow.feed();
         CHECK.same("of none", flow.lookAt(7), 0);
         CHECK.same("its steps", flow.lookAt(8), 7);
         flow = taken(inMainChangeable("(read(imod(write 6))x(if(same x 6)(write(cons x l))(write nil)))"), 1);
@@ -511,6 +455,7 @@ public final class ProgramTests {
     }
 
     private static void definitions() {
+        CHECK.edge(3, "call, memo and jump");
         String fac = "(fun fac((n int))int(if(less n 1)1(mul n(call fac(sub n 1)))))";
         valueWith(fac, "(call fac 5)", 120, 57);
         valueWith(fac, "(memo fac 5)", 120, 57);
@@ -519,9 +464,9 @@ public final class ProgramTests {
         valueWith("(fun one()int 1)", "(add(call one)(memo one))", 2, 5);
         String sum = "(fun sum((l lmod))imod(imod(read l x(jump go x 0))))"
             + "(chg go((x list)(s int))int(case x(write s)(h t(read t y(jump go y(add s h))))))";
-        LevelFlow flow = taken(sum + inMainChangeable("(read(call sum l)s(write(cons s l)))"), 3, 4, 5);
+        Flow flow = taken(sum + inMainChangeable("(read(call sum l)s(write(cons s l)))"), 3, 4, 5);
         CHECK.output("sum", flow, 12, 3, 4, 5);
-        Check.feed(flow, 1);
+        flow.feed(1);
         CHECK.output("sum of one", flow, 1, 1);
         flow = taken("(fun f(" + parameters(8, "") + ")int(sub(mul pa pb)(sub pg ph)))"
             + oneInt("(call f 3 4 0 0 0 0 8 9)"));
@@ -529,6 +474,7 @@ public final class ProgramTests {
     }
 
     private static void limit() {
+        CHECK.edge(3, "7: more than 6000 steps");
         fault(7, inMain("(call main l)"));
         fault(7, "(chg f()list(jump f))" + inMainChangeable("(jump f)"));
         String down = "(fun f((n int))int(if n(call f(sub n 1))0))(fun a()int(call f 998))(fun b()int(call a))";
@@ -540,18 +486,19 @@ public final class ProgramTests {
 
     /** The input decides how many steps there are: 6000 are taken, 6001 are not. */
     private static void limitOfBatches() {
+        CHECK.edge(9, "6000 STEPS are applied, 6001 are refused");
         String down = "(fun a()list nil)(fun b()list(call a))"
             + "(chg d((n int))list(if n(jump d(sub n 1))(write(call a))))"
             + inMainChangeable("(read l x(case x(write nil)(h t(jump d h))))");
-        LevelFlow flow = taken(down, 0);
-        CHECK.same("6000 steps", Check.feed(flow, 998), 0);
+        Flow flow = taken(down, 0);
+        CHECK.same("6000 steps", flow.feed(998), 0);
         CHECK.same("told", flow.lookAt(8), 6000);
-        CHECK.same("6006 steps", Check.feed(flow, 999), -7);
+        CHECK.same("6006 steps", flow.feed(999), -7);
         CHECK.same("as before", flow.lookAt(8), 6000);
         flow = taken(down.replace("(call a))))", "(call b))))"), 0);
-        CHECK.same("6001 steps", Check.feed(flow, 998), -7);
-        CHECK.same("5995 steps", Check.feed(flow, 997), 0);
+        CHECK.same("6001 steps", flow.feed(998), -7);
+        CHECK.same("5995 steps", flow.feed(997), 0);
         CHECK.same("told", flow.lookAt(8), 5995);
-        CHECK.same("without an end", Check.feed(flow, -1), -7);
+        CHECK.same("without an end", flow.feed(-1), -7);
     }
 }

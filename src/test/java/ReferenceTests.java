@@ -5,13 +5,13 @@ import java.util.Random;
 
 /** Made-up calls, with the answers of Reference and of plain lists as those that are due. */
 public final class ReferenceTests {
-    private static final int OBJECTS = 1500;
-    private static final int CALLS = 120;
+    private static final int OBJECTS = 6000;
+    private static final int TURNS = 120;
     private static final Check CHECK = new Check();
 
     private final Random random;
     private final Maker maker;
-    private final LevelFlow flow = new LevelFlow();
+    private final Flow flow = new Flow();
 
     private Reference program;
     private List<Integer> input = new ArrayList<>();
@@ -56,10 +56,13 @@ public final class ReferenceTests {
     }
 
     private void run() {
-        for (int call = 0; call < CALLS && CHECK.wrong() == 0; call++) {
+        if (random.nextInt(4) == 0) {
+            fill(random.nextInt(66));
+        }
+        for (int turn = 0; turn < TURNS && hasCallsFor("") && CHECK.wrong() == 0; turn++) {
             int choice = random.nextInt(20);
             if (choice == 0) {
-                takeRight();
+                take(maker.program());
             } else if (choice < 3) {
                 take(maker.withFault(maker.program()));
             } else if (choice < 7) {
@@ -70,16 +73,22 @@ public final class ReferenceTests {
             } else {
                 edit();
             }
-            compare();
+            if (random.nextInt(3) == 0) {
+                compare();
+            }
         }
     }
 
-    private void takeRight() {
-        take(maker.program());
+    /** To give and take a text, with a call to spare for each number that compare() looks at. */
+    private boolean hasCallsFor(String text) {
+        return flow.callsLeft() >= Flow.callsToGive(text) + 20;
     }
 
     private void take(String text) {
-        Check.give(flow, text);
+        if (!hasCallsFor(text)) {
+            return;
+        }
+        flow.give(text);
         CHECK.same("tape", flow.lookAt(0), text.length());
         fault = 0;
         place = LevelFlow.NONE;
@@ -127,6 +136,20 @@ public final class ReferenceTests {
     private void restart() {
         draft = new ArrayList<>(input);
         edits = 0;
+    }
+
+    private void fill(int count) {
+        for (int k = 0; k < count; k++) {
+            int v = someInt();
+            boolean fits = edits < 32 && draft.size() < 64;
+            CHECK.same("insertAhead", flow.insertAhead(0, v) ? 1 : 0, fits ? 1 : 0);
+            if (fits) {
+                draft.add(0, v);
+                edits++;
+            } else {
+                apply();
+            }
+        }
     }
 
     private int someInt() {
@@ -183,8 +206,11 @@ public final class ReferenceTests {
         for (int which = 0; which < due.length; which++) {
             CHECK.same("lookAt(" + which + ")", flow.lookAt(which), due[which]);
         }
-        CHECK.list("output", Check.output(flow), output);
-        CHECK.list("input", Check.input(flow, false), input);
-        CHECK.list("draft", Check.input(flow, true), draft);
+        if (random.nextInt(3) > 0 || flow.callsLeft() < 23 + output.size() + input.size() + draft.size()) {
+            return;
+        }
+        CHECK.list("output", flow.output(), output);
+        CHECK.list("input", flow.input(false), input);
+        CHECK.list("draft", flow.input(true), draft);
     }
 }

@@ -48,8 +48,8 @@ public final class RoomTests {
             + "(chg d((l list)(n int))list(case l(jump c n)(h t(if(less 90 h)(jump d l n)(jump c h)))))"
             + "(fun main((l lmod))lmod(lmod(read l x(jump d x 400))))";
         long before = allocated();
-        LevelFlow flow = new LevelFlow();
-        CHECK.same("taken", Check.take(flow, text), 0);
+        Flow flow = new Flow();
+        CHECK.same("taken", flow.take(text), 0);
         CHECK.same("output", flow.lookAt(7), 400);
         int calls = 4 + (text.length() + 7) / 8;
         for (; calls < 508; calls += 4) {
@@ -71,29 +71,29 @@ public final class RoomTests {
         openedOnly("(if", 1350);
         openedOnly("(imod(write", 360);
         openedOnly("(call f", 550);
-        LevelFlow flow = new LevelFlow();
-        Check.feed(flow, 7);
-        CHECK.same("deep ifs", Check.take(flow, inMain("(if 1", " l", " l)", 450)), 0);
+        Flow flow = new Flow();
+        flow.feed(7);
+        CHECK.same("deep ifs", flow.take(inMain("(if 1", " l", " l)", 450)), 0);
         CHECK.same("their steps", flow.lookAt(8), 901);
-        flow = new LevelFlow();
-        CHECK.same("deep adds", Check.take(flow, inMain("(add(add 1 2)", "(add 1 2)", ")", 280)), 6);
+        flow = new Flow();
+        CHECK.same("deep adds", flow.take(inMain("(add(add 1 2)", "(add 1 2)", ")", 280)), 6);
         CHECK.same("their place", flow.lookAt(2), "(fun main((l lmod))lmod".length());
-        flow = new LevelFlow();
+        flow = new Flow();
         String adds = "(lmod(write(cons" + "(add 1".repeat(480) + " 1" + ")".repeat(480) + "l)))";
-        CHECK.same("a deep sum", Check.take(flow, inMain("", adds, "", 0)), 0);
+        CHECK.same("a deep sum", flow.take(inMain("", adds, "", 0)), 0);
         CHECK.same("its value", flow.outputAt(0), 481);
-        flow = new LevelFlow();
+        flow = new Flow();
         String down = "(fun f((n int))int(if n(add 1(call f(sub n 1)))0))";
-        CHECK.same("a deep run", Check.take(flow, down + inMain("", "(lmod(write(cons(call f 700)l)))", "", 0)), 0);
+        CHECK.same("a deep run", flow.take(down + inMain("", "(lmod(write(cons(call f 700)l)))", "", 0)), 0);
         CHECK.same("its value", flow.outputAt(0), 700);
-        CHECK.same("a run too deep", Check.take(flow, inMain("", "(call main l)", "", 0)), 7);
+        CHECK.same("a run too deep", flow.take(inMain("", "(call main l)", "", 0)), 7);
     }
 
     private static void openedOnly(String opening, int count) {
-        LevelFlow flow = new LevelFlow();
+        Flow flow = new Flow();
         String text = inMain(opening, "", "", count);
         text = text.substring(0, text.length() - 1);
-        CHECK.same(opening + " " + count + " times", Check.take(flow, text), 3);
+        CHECK.same(opening + " " + count + " times", flow.take(text), 3);
         CHECK.same("its place", flow.lookAt(2), text.length());
     }
 }

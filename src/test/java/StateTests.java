@@ -41,7 +41,8 @@ public final class StateTests {
     }
 
     private static void newObject() {
-        LevelFlow flow = new LevelFlow();
+        CHECK.edge(1, "nothing is there at first");
+        Flow flow = new Flow();
         int[] due = {0, 0, -1, 0, 0, 0, 0, -1, -1, 0, 0};
         for (int which = 0; which < due.length; which++) {
             CHECK.same("new, lookAt(" + which + ")", flow.lookAt(which), due[which]);
@@ -55,7 +56,8 @@ public final class StateTests {
     }
 
     private static void giveText() {
-        LevelFlow flow = new LevelFlow();
+        CHECK.edge(2, "n bytes, 1 to 8, the highest first");
+        Flow flow = new Flow();
         for (int n : new int[] {0, -1, 9, MOST, LEAST}) {
             CHECK.fails("giveText of " + n, flow.giveText(0x28L, n));
         }
@@ -63,7 +65,7 @@ public final class StateTests {
         CHECK.holds("one byte", flow.giveText(0x7777777777777728L, 1));
         CHECK.holds("two bytes", flow.giveText(0x7777777777776675L, 2));
         CHECK.same("tape of three", flow.lookAt(0), 3);
-        CHECK.holds("rest", Check.give(flow, SAME.substring(3)));
+        CHECK.holds("rest", flow.give(SAME.substring(3)));
         CHECK.same("tape", flow.lookAt(0), SAME.length());
         CHECK.same("takes what was given in pieces", flow.takeProgram(), 0);
         CHECK.same("tape is empty", flow.lookAt(0), 0);
@@ -73,7 +75,8 @@ public final class StateTests {
     }
 
     private static void tapeIsFull() {
-        LevelFlow flow = new LevelFlow();
+        CHECK.edge(2, "there is no room");
+        Flow flow = Flow.ofManyCalls();
         for (int k = 0; k < 1023; k++) {
             flow.giveText(0x2020202020202020L, 8);
         }
@@ -90,7 +93,8 @@ public final class StateTests {
     }
 
     private static void insertAhead() {
-        LevelFlow flow = new LevelFlow();
+        CHECK.edge(4, "places 0 to the length");
+        Flow flow = new Flow();
         CHECK.fails("no place 1", flow.insertAhead(1, 7));
         CHECK.fails("no place -1", flow.insertAhead(-1, 7));
         CHECK.holds("at 0", flow.insertAhead(0, 7));
@@ -99,14 +103,15 @@ public final class StateTests {
         CHECK.holds("ahead", flow.insertAhead(0, MOST));
         CHECK.fails("no place 5", flow.insertAhead(5, 7));
         CHECK.fails("no such place", flow.insertAhead(MOST, 7));
-        CHECK.list("draft", Check.input(flow, true), List.of(MOST, 7, LEAST, 9));
-        CHECK.list("input", Check.input(flow, false), List.of());
+        CHECK.list("draft", flow.input(true), List.of(MOST, 7, LEAST, 9));
+        CHECK.list("input", flow.input(false), List.of());
         CHECK.same("edits", flow.lookAt(6), 4);
         sixtyFour();
     }
 
     private static void sixtyFour() {
-        LevelFlow flow = new LevelFlow();
+        CHECK.edge(4, "the draft has 64");
+        Flow flow = new Flow();
         for (int i = 0; i < 64; i++) {
             if (i == 32) {
                 flow.applyBatch();
@@ -125,23 +130,25 @@ public final class StateTests {
     }
 
     private static void replaceAt() {
-        LevelFlow flow = new LevelFlow();
+        CHECK.edge(5, "there is an int at the place, or none");
+        Flow flow = new Flow();
         CHECK.fails("none at 0", flow.replaceAt(0, 1));
-        Check.feed(flow, 1, 2, 3);
+        flow.feed(1, 2, 3);
         CHECK.fails("none at 3", flow.replaceAt(3, 1));
         CHECK.fails("none at -1", flow.replaceAt(-1, 1));
         CHECK.fails("none far off", flow.replaceAt(MOST, 1));
         CHECK.holds("the last one", flow.replaceAt(2, -3));
         CHECK.holds("by itself", flow.replaceAt(0, 1));
         CHECK.same("edits", flow.lookAt(6), 2);
-        CHECK.list("draft", Check.input(flow, true), List.of(1, 2, -3));
-        CHECK.list("input", Check.input(flow, false), List.of(1, 2, 3));
+        CHECK.list("draft", flow.input(true), List.of(1, 2, -3));
+        CHECK.list("input", flow.input(false), List.of(1, 2, 3));
     }
 
     private static void deleteFrom() {
-        LevelFlow flow = new LevelFlow();
+        CHECK.edge(6, "n ints go, or there are not so many");
+        Flow flow = new Flow();
         CHECK.fails("none there", flow.deleteFrom(0, 1));
-        Check.feed(flow, 1, 2, 3, 4, 5);
+        flow.feed(1, 2, 3, 4, 5);
         int[][] refused = {{0, 0}, {0, -1}, {0, 6}, {5, 1}, {4, 2}, {-1, 1}, {-1, 3}, {6, -1}, {5, 0},
             {1, MOST}, {MOST, 1}, {MOST, MOST}, {LEAST, 1}, {LEAST, MOST}, {0, LEAST}, {LEAST, LEAST}};
         for (int[] r : refused) {
@@ -149,18 +156,19 @@ public final class StateTests {
         }
         CHECK.same("no edits", flow.lookAt(6), 0);
         CHECK.holds("two from 1", flow.deleteFrom(1, 2));
-        CHECK.list("draft", Check.input(flow, true), List.of(1, 4, 5));
+        CHECK.list("draft", flow.input(true), List.of(1, 4, 5));
         CHECK.holds("the last one", flow.deleteFrom(2, 1));
         CHECK.holds("all", flow.deleteFrom(0, 2));
-        CHECK.list("empty draft", Check.input(flow, true), List.of());
+        CHECK.list("empty draft", flow.input(true), List.of());
         CHECK.same("edits", flow.lookAt(6), 3);
         CHECK.same("input", flow.lookAt(4), 5);
     }
 
     private static void reverseFrom() {
-        LevelFlow flow = new LevelFlow();
+        CHECK.edge(7, "n ints are turned about, or there are not so many");
+        Flow flow = new Flow();
         CHECK.fails("none there", flow.reverseFrom(0, 2));
-        Check.feed(flow, 1, 2, 3, 4, 5);
+        flow.feed(1, 2, 3, 4, 5);
         int[][] refused = {{0, 1}, {0, 0}, {0, -2}, {0, 6}, {4, 2}, {5, 2}, {-1, 2}, {-1, 3}, {7, -2},
             {1, MOST}, {MOST, 2}, {MOST, MOST}, {LEAST, 2}, {LEAST, LEAST}, {0, LEAST}};
         for (int[] r : refused) {
@@ -168,16 +176,17 @@ public final class StateTests {
         }
         CHECK.same("no edits", flow.lookAt(6), 0);
         CHECK.holds("all", flow.reverseFrom(0, 5));
-        CHECK.list("turned", Check.input(flow, true), List.of(5, 4, 3, 2, 1));
+        CHECK.list("turned", flow.input(true), List.of(5, 4, 3, 2, 1));
         CHECK.holds("the last two", flow.reverseFrom(3, 2));
         CHECK.holds("three inside", flow.reverseFrom(1, 3));
-        CHECK.list("draft", Check.input(flow, true), List.of(5, 1, 3, 4, 2));
+        CHECK.list("draft", flow.input(true), List.of(5, 1, 3, 4, 2));
         CHECK.same("edits", flow.lookAt(6), 3);
     }
 
     private static void fullBatch() {
-        LevelFlow flow = new LevelFlow();
-        Check.feed(flow, 1, 2, 3);
+        CHECK.edge(4, "and 5 to 7: the batch has 32");
+        Flow flow = new Flow();
+        flow.feed(1, 2, 3);
         for (int k = 0; k < 32; k++) {
             CHECK.holds("edit " + k, flow.replaceAt(0, 1));
         }
@@ -186,30 +195,32 @@ public final class StateTests {
         CHECK.fails("replace", flow.replaceAt(0, 9));
         CHECK.fails("delete", flow.deleteFrom(0, 1));
         CHECK.fails("reverse", flow.reverseFrom(0, 2));
-        CHECK.list("draft", Check.input(flow, true), List.of(1, 2, 3));
+        CHECK.list("draft", flow.input(true), List.of(1, 2, 3));
         flow.applyBatch();
         CHECK.holds("again", flow.insertAhead(0, 1));
     }
 
     private static void dropBatch() {
-        LevelFlow flow = new LevelFlow();
-        Check.feed(flow, 1, 2, 3);
+        CHECK.edge(8, "the batch is empty again");
+        Flow flow = new Flow();
+        flow.feed(1, 2, 3);
         flow.insertAhead(0, 9);
         flow.reverseFrom(0, 4);
         flow.dropBatch();
         CHECK.same("no edits", flow.lookAt(6), 0);
-        CHECK.list("draft is input", Check.input(flow, true), List.of(1, 2, 3));
+        CHECK.list("draft is input", flow.input(true), List.of(1, 2, 3));
         flow.dropBatch();
-        CHECK.list("again", Check.input(flow, true), List.of(1, 2, 3));
+        CHECK.list("again", flow.input(true), List.of(1, 2, 3));
     }
 
     private static void applyWithoutProgram() {
-        LevelFlow flow = new LevelFlow();
+        CHECK.edge(9, "there is no program");
+        Flow flow = new Flow();
         CHECK.same("empty one", flow.applyBatch(), LevelFlow.NONE);
         flow.insertAhead(0, 4);
         CHECK.same("one edit", flow.applyBatch(), LevelFlow.NONE);
-        CHECK.list("input", Check.input(flow, false), List.of(4));
-        CHECK.list("draft", Check.input(flow, true), List.of(4));
+        CHECK.list("input", flow.input(false), List.of(4));
+        CHECK.list("draft", flow.input(true), List.of(4));
         CHECK.same("batch", flow.lookAt(6), 0);
         CHECK.same("applied to a program", flow.lookAt(9), 0);
         CHECK.same("output", flow.lookAt(7), LevelFlow.NONE);
@@ -218,8 +229,9 @@ public final class StateTests {
     }
 
     private static void applyWithProgram() {
-        LevelFlow flow = new LevelFlow();
-        CHECK.same("map", Check.take(flow, MAP), 0);
+        CHECK.edge(9, "the batch is applied");
+        Flow flow = new Flow();
+        CHECK.same("map", flow.take(MAP), 0);
         CHECK.same("steps over nothing", flow.lookAt(8), 11);
         CHECK.same("empty batch", flow.applyBatch(), 0);
         flow.insertAhead(0, 5);
@@ -235,24 +247,25 @@ public final class StateTests {
         CHECK.output("turned", flow, -20, 16);
         CHECK.same("an empty batch counts", flow.applyBatch(), 2);
         CHECK.same("applied", flow.lookAt(9), 4);
-        CHECK.same("another program", Check.take(flow, SAME), 0);
+        CHECK.same("another program", flow.take(SAME), 0);
         CHECK.same("applied in all", flow.lookAt(9), 4);
         CHECK.output("same", flow, -7, 5);
         CHECK.same("one step", flow.lookAt(8), 1);
-        CHECK.same("all go", Check.feed(flow), 0);
+        CHECK.same("all go", flow.feed(), 0);
         CHECK.same("no ints", flow.lookAt(7), 0);
     }
 
     private static void applyRefused() {
-        LevelFlow flow = new LevelFlow();
-        Check.feed(flow, 5);
-        CHECK.same("loop", Check.take(flow, LOOP), 0);
+        CHECK.edge(9, "a run would take more than 6000 steps");
+        Flow flow = new Flow();
+        flow.feed(5);
+        CHECK.same("loop", flow.take(LOOP), 0);
         CHECK.same("steps", flow.lookAt(8), 27);
         flow.insertAhead(1, 95);
         CHECK.same("refused", flow.applyBatch(), -7);
         CHECK.same("refused again", flow.applyBatch(), -7);
-        CHECK.list("input", Check.input(flow, false), List.of(5));
-        CHECK.list("draft", Check.input(flow, true), List.of(5, 95));
+        CHECK.list("input", flow.input(false), List.of(5));
+        CHECK.list("draft", flow.input(true), List.of(5, 95));
         CHECK.same("batch", flow.lookAt(6), 1);
         CHECK.same("steps stay", flow.lookAt(8), 27);
         CHECK.same("not applied", flow.lookAt(9), 0);
@@ -266,34 +279,36 @@ public final class StateTests {
     }
 
     private static void takeProgramEmptiesBatch() {
-        LevelFlow flow = new LevelFlow();
-        Check.feed(flow, 5);
+        CHECK.edge(3, "tape and batch are empty, whatever it answers");
+        Flow flow = new Flow();
+        flow.feed(5);
         flow.insertAhead(0, 6);
-        CHECK.same("taken over the input", Check.take(flow, SAME), 0);
+        CHECK.same("taken over the input", flow.take(SAME), 0);
         CHECK.output("the input's", flow, 5);
         CHECK.same("batch", flow.lookAt(6), 0);
-        CHECK.list("draft", Check.input(flow, true), List.of(5));
+        CHECK.list("draft", flow.input(true), List.of(5));
         flow.insertAhead(0, 6);
-        CHECK.same("a fault", Check.take(flow, "(fun"), 3);
+        CHECK.same("a fault", flow.take("(fun"), 3);
         CHECK.same("batch behind a fault", flow.lookAt(6), 0);
-        CHECK.list("draft behind a fault", Check.input(flow, true), List.of(5));
+        CHECK.list("draft behind a fault", flow.input(true), List.of(5));
         flow.insertAhead(0, 6);
         String endless = "(fun f((l lmod))lmod(call f l))(fun main((l lmod))lmod(call f l))";
-        CHECK.same("too long", Check.take(flow, endless), 7);
+        CHECK.same("too long", flow.take(endless), 7);
         CHECK.same("batch behind 7", flow.lookAt(6), 0);
         CHECK.same("tape behind 7", flow.lookAt(0), 0);
         CHECK.same("the program before", flow.lookAt(3), 1);
         CHECK.output("its output", flow, 5);
         CHECK.same("its steps", flow.lookAt(8), 1);
-        Check.feed(flow, 8, 9);
+        flow.feed(8, 9);
         CHECK.output("it goes on", flow, 8, 9);
     }
 
     private static void outputAt() {
-        LevelFlow flow = new LevelFlow();
-        Check.take(flow, SAME);
+        CHECK.edge(10, "an int of the output, or none");
+        Flow flow = new Flow();
+        flow.take(SAME);
         CHECK.noOutputAt(flow, 0);
-        Check.feed(flow, 3, 4);
+        flow.feed(3, 4);
         CHECK.same("0", flow.outputAt(0), 3);
         CHECK.same("1", flow.outputAt(1), 4);
         for (int i : new int[] {2, -1, MOST, LEAST}) {
@@ -302,8 +317,9 @@ public final class StateTests {
     }
 
     private static void inputAt() {
-        LevelFlow flow = new LevelFlow();
-        Check.feed(flow, 3, 4);
+        CHECK.edge(11, "an int of the input or the draft, or none");
+        Flow flow = new Flow();
+        flow.feed(3, 4);
         flow.insertAhead(0, 8);
         CHECK.same("input", flow.inputAt(0, false), 3);
         CHECK.same("draft", flow.inputAt(0, true), 8);
@@ -316,11 +332,12 @@ public final class StateTests {
     }
 
     private static void lookAtSum() {
-        LevelFlow flow = new LevelFlow();
-        Check.take(flow, SAME);
-        Check.feed(flow, MOST, 1);
+        CHECK.edge(12, "10: the sum modulo 2^32");
+        Flow flow = new Flow();
+        flow.take(SAME);
+        flow.feed(MOST, 1);
         CHECK.same("the sum goes round", flow.lookAt(10), LEAST);
-        Check.feed(flow, LEAST, LEAST, 5);
+        flow.feed(LEAST, LEAST, 5);
         CHECK.same("twice 2^31 is 0", flow.lookAt(10), 5);
     }
 }
