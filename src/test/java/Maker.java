@@ -7,9 +7,17 @@ final class Maker {
     private static final String[] TYPES = {"int", "list", "imod", "lmod"};
     private static final String[] OPERATIONS = {"add", "sub", "mul", "div", "rem", "less", "same"};
     private static final String[] NUMBERS = {"0", "1", "2", "-1", "7", "-0", "0012", "2147483647", "-2147483648"};
-    private static final String[] TOKENS = {"(", ")", "nil", "int", "list", "imod", "lmod", "fun", "chg", "add", "sub",
+    /** Has each form of definitions and expressions, with a blank between all tokens. */
+    static final String ALL_FORMS =
+        "( chg c ( ( a int ) ( b list ) ( i imod ) ( k lmod ) ) list "
+        + "( read i x ( read k y ( if ( less x a ) ( write y ) ( let z -5 ( case b ( write nil ) "
+        + "( h t ( jump c ( add z h ) y i t ) ) ) ) ) ) ) ) "
+        + "( fun f ( ) imod ( imod ( write 0 ) ) ) "
+        + "( fun main ( ( l lmod ) ) lmod ( if ( case nil 1 ( h t h ) ) "
+        + "( let m ( call f ) ( lmod ( jump c 1 ( cons 2 l ) m l ) ) ) ( memo main l ) ) )";
+    static final String[] TOKENS = {"(", ")", "nil", "int", "list", "imod", "lmod", "fun", "chg", "add", "sub",
         "if", "let", "case", "cons", "call", "memo", "read", "write", "jump", "main", "a", "b", "c", "fa", "fb", "0",
-        "1", "99999999999", "x1", "abcdefghijklm", "-", "#", "same"};
+        "1", "2147483648", "x1", "l", "h", "x", "abcdefghijklm", "-", "#", "same"};
     private static final String[] KNOWN = {
         "(chg mapc((l list))list(case l(write nil)(h t(write(cons(add(mul h 3)1)(memo map t))))))"
             + "(fun map((l lmod))lmod(lmod(read l x(jump mapc x))))",
@@ -78,6 +86,11 @@ final class Maker {
         text.append("(fun main((l lmod))lmod ");
         stable(new Scope().with("l", "lmod"), "lmod", 4);
         return text.append(")").toString();
+    }
+
+    String knownProgram() {
+        int known = random.nextInt(KNOWN.length);
+        return KNOWN[known] + "(fun main((l lmod))lmod(call " + KNOWN_NAMES[known] + " l))";
     }
 
     String withFault(String right) {

@@ -38,6 +38,10 @@ public final class ReferenceTests {
             for (int seed = 0; seed < objects && CHECK.wrong() == 0; seed++) {
                 new ReferenceTests(seed, seen).run();
             }
+            tokenByToken(seen);
+            for (int seed = 0; seed < objects / 10 && CHECK.wrong() == 0; seed++) {
+                new ReferenceTests(seed, seen).manyBatches();
+            }
         }, "reference", 1L << 29);
         boolean[] thrown = new boolean[1];
         thread.setUncaughtExceptionHandler((t, e) -> {
@@ -53,6 +57,52 @@ public final class ReferenceTests {
             CHECK.holds(what + " was tested", seen[kind] > 0);
         }
         CHECK.end("ReferenceTests");
+    }
+
+    /** Each token of a text taken away, another one put in its place, and ahead of it. */
+    private static void tokenByToken(int[] seen) {
+        List<String> tokens = List.of(Maker.ALL_FORMS.split(" "));
+        for (int at = 0; at < tokens.size() && CHECK.wrong() == 0; at++) {
+            List<String> changed = new ArrayList<>(tokens);
+            changed.remove(at);
+            takeByItself(changed, seen);
+            for (String token : Maker.TOKENS) {
+                changed.add(at, token);
+                takeByItself(changed, seen);
+                changed.add(at + 1, tokens.get(at));
+                takeByItself(changed, seen);
+                changed.remove(at + 1);
+                changed.remove(at);
+            }
+        }
+    }
+
+    private static void takeByItself(List<String> tokens, int[] seen) {
+        ReferenceTests one = new ReferenceTests(0, seen);
+        one.take(String.join(" ", tokens));
+        one.compare();
+    }
+
+    /** Batch behind batch over one program: each one's output and steps are those of a whole run. */
+    private void manyBatches() {
+        fill(random.nextInt(12));
+        take(maker.knownProgram());
+        for (int turn = 0; turn < TURNS && hasCallsFor("") && CHECK.wrong() == 0; turn++) {
+            int count = random.nextInt(4);
+            for (int k = 0; k < count; k++) {
+                edit();
+            }
+            apply();
+            if (random.nextInt(3) == 0) {
+                compare();
+            } else {
+                CHECK.same("steps", flow.lookAt(8), steps);
+            }
+            if (edits > 0) {
+                flow.dropBatch();
+                restart();
+            }
+        }
     }
 
     private void run() {

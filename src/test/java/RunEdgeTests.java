@@ -22,6 +22,7 @@ public final class RunEdgeTests extends Texts {
         caseOfNil();
         operandsInTheirOrder();
         hiddenVariables();
+        variablesBehindOthers();
         parametersAreNewVariables();
         stepsOfEachExpression();
         modifiablesHoldWhatIsWritten();
@@ -33,6 +34,7 @@ public final class RunEdgeTests extends Texts {
         runsWithoutEnd();
         limitLooksAtInput();
         runIsOverInput();
+        refusedRunsLeaveNothing();
         sevenChangesNothing();
         faultsChangeNothing();
         takeLeavesTapeAndBatchEmpty();
@@ -198,6 +200,18 @@ public final class RunEdgeTests extends Texts {
         CHECK.output("of read", taken(inMainChangeable(
             "(let x 1(read(imod(read(imod(write 5))x(write(add x 1))))y(write(cons(add x y)l))))")), 7);
         CHECK.output("a parameter", taken("(fun f((a int))int(add(let a 10 a)a))" + oneInt("(call f 1)")), 11);
+    }
+
+    private static void variablesBehindOthers() {
+        CHECK.edge(3, "a variable has its own value, whatever was bound in the part ahead of it");
+        String one = "(cons 8(lmod(write nil)))";
+        value("(let x(let y 1(let z 2(add y z)))(let u 5(sub x u)))", -2, 13);
+        value("(case(let y 1(let z 2 " + one + "))0(h t(let u 5(sub h u))))", 3, 15);
+        value("(let x(case " + one + "0(h t(let u 1 h)))(let y 5(sub x y)))", 3, 15);
+        valueWith("(fun f((a int)(b int))list(let c 1" + one + "))", "(case(call f 1 2)0(h t h))", 8, 12);
+        valueWith("(fun f((a int)(b int))int(let c 1 b))", "(let x(call f 1 2)(let y(call f 3 4)(sub x y)))", -2, 17);
+        CHECK.output("of read", taken("(fun f((a int)(b int))imod(let c 1(imod(write b))))"
+            + inMainChangeable("(read(call f 1 2)x(read(call f 3 4)y(write(cons(sub x y)l))))")), -2);
     }
 
     private static void parametersAreNewVariables() {
@@ -390,6 +404,23 @@ public final class RunEdgeTests extends Texts {
         flow.replaceAt(0, 3);
         CHECK.same("7", flow.take(FIRST_COUNTS), 7);
         CHECK.draft("the DRAFT is the INPUT", flow, 999);
+    }
+
+    private static void refusedRunsLeaveNothing() {
+        CHECK.edge(3, "a RUN that would take more than LIMIT leaves nothing for later ones");
+        String deep = "(fun f((n int))int(add n(call f n)))(fun g((n int))int(call f(add 1(call g n))))";
+        Flow flow = taken(deep + inMainChangeable("(read l x(case x(write nil)(h t(if h(write(cons(call f h)l))"
+            + "(write(cons(if h(call g h)7)t))))))"), 0, 3, 4);
+        String before = flow.state();
+        for (int k = 0; k < 60; k++) {
+            flow.replaceAt(0, k + 1);
+            CHECK.same("refused", flow.applyBatch(), -7);
+            flow.dropBatch();
+        }
+        CHECK.same("all is as before", flow.state(), before);
+        CHECK.same("applied", flow.applyBatch(), 3);
+        CHECK.output("its own", flow, 7, 3, 4);
+        CHECK.same("steps", flow.lookAt(8), 13);
     }
 
     // What stays and what goes

@@ -2,14 +2,7 @@ import java.util.List;
 
 /** Promise 3, one case for each edge of texts that the document names: the faults 1 to 6. */
 public final class TextEdgeTests extends Texts {
-    /** Has each form of definitions and expressions, with a blank between all tokens. */
-    private static final String ALL_FORMS =
-        "( chg c ( ( a int ) ( b list ) ( i imod ) ( k lmod ) ) list "
-        + "( read i x ( read k y ( if ( less x a ) ( write y ) ( let z -5 ( case b ( write nil ) "
-        + "( h t ( jump c ( add z h ) y i t ) ) ) ) ) ) ) ) "
-        + "( fun f ( ) imod ( imod ( write 0 ) ) ) "
-        + "( fun main ( ( l lmod ) ) lmod ( if ( case nil 1 ( h t h ) ) "
-        + "( let m ( call f ) ( lmod ( jump c 1 ( cons 2 l ) m l ) ) ) ( memo main l ) ) )";
+    private static final String ALL_FORMS = Maker.ALL_FORMS;
 
     private TextEdgeTests() {
     }
@@ -40,6 +33,8 @@ public final class TextEdgeTests extends Texts {
         headAndTailOfOneName();
         definitionsUseAll();
         nilByItself();
+        wordsOfTheOtherLevel();
+        anotherTokenHasToBe();
         variablesUpToTwentyFour();
         twentyFifthVariable();
         hiddenVariablesCount();
@@ -399,6 +394,123 @@ public final class TextEdgeTests extends Texts {
         fault(2, inMainChangeable("@nil"));
         fault(2, inMain("(let @nil 1 l)"));
         fault(2, inMain("(call @nil)"));
+    }
+
+    private static final List<String> STABLE_WORDS = List.of("add", "sub", "mul", "div", "rem", "less", "same",
+        "if", "let", "case", "cons", "call", "memo", "imod", "lmod");
+    private static final List<String> CHANGEABLE_WORDS = List.of("read", "write", "if", "let", "case", "jump");
+
+    private static void wordsOfTheOtherLevel() {
+        CHECK.edge(3, "fault 2: a word that is none, where E, C or a DEFINITION has to be");
+        for (String word : new String[] {"add", "sub", "mul", "div", "rem", "less", "same", "if", "let", "case", "cons",
+            "call", "memo", "imod", "lmod", "read", "write", "jump", "nil", "int", "list", "fun", "chg", "foo", "ad",
+            "adds", "main", "l", "f", "x"}) {
+            wordBegins(STABLE_WORDS.contains(word), "(fun f()int(", word);
+            wordBegins(STABLE_WORDS.contains(word), "(fun f()int(add 1(", word);
+            wordBegins(STABLE_WORDS.contains(word), "(chg f()int(write(", word);
+            wordBegins(STABLE_WORDS.contains(word), "(chg f()int(if(", word);
+            wordBegins(STABLE_WORDS.contains(word), "(chg f()int(jump f(", word);
+            wordBegins(STABLE_WORDS.contains(word), "(fun f()int(if 1(", word);
+            wordBegins(CHANGEABLE_WORDS.contains(word), "(chg f()int(", word);
+            wordBegins(CHANGEABLE_WORDS.contains(word), "(fun f()int(imod(", word);
+            wordBegins(CHANGEABLE_WORDS.contains(word), "(chg f()int(if 1(", word);
+            wordBegins(CHANGEABLE_WORDS.contains(word), "(chg f()int(let x 1(", word);
+            wordBegins(CHANGEABLE_WORDS.contains(word), "(chg f()int(case nil(write 1)(h t(", word);
+            wordBegins(CHANGEABLE_WORDS.contains(word), "(chg f()int(read x y(", word);
+            wordBegins(word.equals("fun") || word.equals("chg"), "(", word);
+            wordBegins(word.equals("fun") || word.equals("chg"), MAIN + "(", word);
+        }
+    }
+
+    private static void wordBegins(boolean isOne, String ahead, String word) {
+        if (isOne) {
+            fault(3, ahead + word + "@");
+        } else {
+            fault(2, ahead + "@" + word);
+        }
+    }
+
+    /** Each row is a text up to a place, and the tokens that can not be there. */
+    private static void anotherTokenHasToBe() {
+        CHECK.edge(3, "fault 2: a TOKEN that can not be there, another one has to be");
+        String[][] rows = {
+            {"", ") 1 nil fun x"},
+            {"(", "( ) 1 nil x add"},
+            {"(fun", "( ) 1 nil int"},
+            {"(fun f", ") 1 nil x int"},
+            {"(fun f(", "1 nil x int"},
+            {"(fun f((", "( ) 1 nil int"},
+            {"(fun f((x", "( ) 1 nil x fun"},
+            {"(fun f((x int", "( 1 nil x int"},
+            {"(fun f((x int)", "1 nil x int"},
+            {"(fun f((x int))", "( ) 1 nil x fun"},
+            {"(fun f()", "( ) 1 nil x fun"},
+            {"(chg f((x int))", "( ) 1 nil x imod lmod chg"},
+            {"(fun f()int", ") int list imod lmod fun chg add read"},
+            {"(chg f()int", ") 1 nil x int read write"},
+            {"(fun f()int 1", "( 1 nil x int"},
+            {"(chg f()int(write 1)", "( 1 nil x int"},
+            {"(fun f()int(", "( ) 1 nil x int"},
+            {"(chg f()int(", "( ) 1 nil x int"},
+            {"(fun f()int(add", ") add int"},
+            {"(fun f()int(add 1", ") add int"},
+            {"(fun f()int(add 1 2", "( 1 nil x int"},
+            {"(fun f()int(if", ") if"},
+            {"(fun f()int(if 1", ") if"},
+            {"(fun f()int(if 1 2", ") if"},
+            {"(fun f()int(if 1 2 3", "( 1 nil x if"},
+            {"(fun f()int(let", "( ) 1 nil let"},
+            {"(fun f()int(let x", ") let"},
+            {"(fun f()int(let x 1", ") let"},
+            {"(fun f()int(let x 1 2", "( 1 nil x let"},
+            {"(fun f()int(case", ") case"},
+            {"(fun f()int(case nil", ") case"},
+            {"(fun f()int(case nil 1", ") 1 nil x case"},
+            {"(fun f()int(case nil 1(", "( ) 1 nil case"},
+            {"(fun f()int(case nil 1(h", "( ) 1 nil case h"},
+            {"(fun f()int(case nil 1(h t", ") case"},
+            {"(fun f()int(case nil 1(h t 2", "( 1 nil x case"},
+            {"(fun f()int(case nil 1(h t 2)", "( 1 nil x case"},
+            {"(fun f()list(cons", ") cons"},
+            {"(fun f()list(cons 1", ") cons"},
+            {"(fun f()list(cons 1 2", "( 1 nil x cons"},
+            {"(fun f()int(call", "( ) 1 nil call"},
+            {"(fun f()int(call f", "call int"},
+            {"(fun f()int(memo", "( ) 1 nil memo"},
+            {"(fun f()int(memo f 1", "memo fun"},
+            {"(fun f()imod(imod", ") 1 nil x imod"},
+            {"(fun f()imod(imod(write 1)", "( 1 nil x imod"},
+            {"(fun f()lmod(lmod", ") 1 nil x lmod"},
+            {"(fun f()lmod(lmod(write 1)", "( 1 nil x lmod"},
+            {"(chg f()int(read", ") read"},
+            {"(chg f()int(read x", "( ) 1 nil read"},
+            {"(chg f()int(read x y", ") 1 nil x read"},
+            {"(chg f()int(read x y(write y)", "( 1 nil x read"},
+            {"(chg f()int(write", ") write"},
+            {"(chg f()int(write 1", "( 1 nil x write"},
+            {"(chg f()int(if 1", ") 1 nil x if"},
+            {"(chg f()int(if 1(write 1)", ") 1 nil x if"},
+            {"(chg f()int(if 1(write 1)(write 1)", "( 1 nil x if"},
+            {"(chg f()int(let x", ") let"},
+            {"(chg f()int(let x 1", ") 1 nil x let"},
+            {"(chg f()int(let x 1(write 1)", "( 1 nil x let"},
+            {"(chg f()int(case nil", ") 1 nil x case"},
+            {"(chg f()int(case nil(write 1)", ") 1 nil x case"},
+            {"(chg f()int(case nil(write 1)(h t", ") 1 nil x case"},
+            {"(chg f()int(case nil(write 1)(h t(write 1)", "( 1 nil x case"},
+            {"(chg f()int(jump", "( ) 1 nil jump"},
+            {"(chg f()int(jump f", "jump chg"},
+            {MAIN, ") 1 nil x fun"},
+        };
+        for (String[] row : rows) {
+            for (String token : row[1].split(" ")) {
+                fault(2, row[0] + " @" + token);
+                fault(2, row[0] + "\n@" + token + " #");
+            }
+            if (!row[0].isEmpty() && !row[0].equals(MAIN)) {
+                fault(3, row[0] + "@");
+            }
+        }
     }
 
     // Variables

@@ -23,6 +23,7 @@ abstract class Texts {
         CHECK.same("definitions of " + text, flow.lookAt(3), 0);
         CHECK.same("tape behind " + text, flow.lookAt(0), 0);
         CHECK.same("output of " + text, flow.lookAt(7), LevelFlow.NONE);
+        takeBehindOthers(kind, place, text);
     }
 
     static Flow taken(String text, int... input) {
@@ -31,7 +32,30 @@ abstract class Texts {
         CHECK.same("takeProgram of " + text, flow.take(text), 0);
         CHECK.same("fault of " + text, flow.lookAt(1), 0);
         CHECK.same("place of " + text, flow.lookAt(2), LevelFlow.NONE);
+        if (input.length == 0 && takeBehindOthers(0, LevelFlow.NONE, text)) {
+            CHECK.same("definitions behind others of " + text, used.lookAt(3), flow.lookAt(3));
+            CHECK.same("steps behind others of " + text, used.lookAt(8), flow.lookAt(8));
+            CHECK.same("sum behind others of " + text, used.lookAt(10), flow.lookAt(10));
+        }
         return flow;
+    }
+
+    /** Takes text after text, with and without faults: none may leave anything for the next one. */
+    private static Flow used = new Flow();
+
+    /** False for a text that is too long to be given beside others. */
+    private static boolean takeBehindOthers(int kind, int place, String text) {
+        int calls = Flow.callsToGive(text) + 6;
+        if (calls > Flow.MOST_CALLS / 2) {
+            return false;
+        }
+        if (used.callsLeft() < calls) {
+            used = new Flow();
+        }
+        CHECK.same("takeProgram behind others of " + text, used.take(text), kind);
+        CHECK.same("fault behind others of " + text, used.lookAt(1), kind);
+        CHECK.same("place behind others in " + text, used.lookAt(2), place);
+        return true;
     }
 
     static String inMain(String stable) {
